@@ -109,7 +109,7 @@ public final class LeftProfile {
             case 2:
                 return scene.seenBy(courtier);
             case 3:
-                return (scene.guiltyNow() & bit(courtier)) != 0 ? 1 : 0;
+                return (scene.guiltyIf(court.stance, hall.walls) & bit(courtier)) != 0 ? 1 : 0;
             case 4:
                 return court.sawLeft[courtier];
             case 5:
@@ -152,11 +152,11 @@ public final class LeftProfile {
         court.stance = next;
         court.acts++;
         scene.everybodyLooks();
-        return Integer.bitCount(scene.guiltyNow());
+        return Integer.bitCount(scene.guiltyIf(court.stance, hall.walls));
     }
 
     public int guilty() {
-        return scene.guiltyNow();
+        return scene.guiltyIf(court.stance, hall.walls);
     }
 
     // ---- what would be
@@ -179,7 +179,10 @@ public final class LeftProfile {
             return STATE;
         }
         int place = scene.bestBrick();
-        return what == 0 || place == NONE ? place : scene.guiltyBehindBrick(place);
+        if (what == 0 || place == NONE) {
+            return place;
+        }
+        return Integer.bitCount(scene.guiltyIf(court.stance, hall.walls | bit(place)));
     }
 
     public int way(int place, int what) {
@@ -263,7 +266,7 @@ public final class LeftProfile {
             case 3:
                 return sideOf(court.stance);
             case 4:
-                return Integer.bitCount(scene.guiltyNow());
+                return Integer.bitCount(scene.guiltyIf(court.stance, hall.walls));
             case 5:
                 return court.howManyTold();
             case 6:
@@ -594,6 +597,7 @@ public final class LeftProfile {
             if ((passed & walls) != 0) {
                 return true;
             }
+            // One fewer lies between than he is PLACES away.
             if (kind == SHORT && Integer.bitCount(passed) >= SHORT_REACH) {
                 return true;
             }
@@ -642,16 +646,9 @@ public final class LeftProfile {
             }
         }
 
-        /** Who is GUILTY, as bits. */
-        int guiltyNow() {
-            return guiltyIf(court.stance);
-        }
-
-        int guiltyIf(int stance) {
-            return guiltyAmong(stance, hall.walls, court.people());
-        }
-
-        private int guiltyAmong(int stance, int walls, int people) {
+        /** Who would be GUILTY, as bits. */
+        int guiltyIf(int stance, int walls) {
+            int people = court.people();
             int set = 0;
             for (int i = 0; i < court.size; i++) {
                 if (sight.isGuilty(court.kinds[i], court.places[i], stance, walls, people)) {
@@ -684,7 +681,7 @@ public final class LeftProfile {
          * nearer, and is GUILTY himself: so nobody more helps anybody, and each PLACE is judged alone.
          */
         int roomFor(int many) {
-            if (guiltyNow() != 0) {
+            if (guiltyIf(court.stance, hall.walls) != 0) {
                 return 0;
             }
             int taken = taken();
@@ -705,16 +702,13 @@ public final class LeftProfile {
             int best = NONE;
             int fewest = MOST_COURTIERS + 1;
             for (int place = 0; place < PLACES; place++) {
-                if (isOpen(place, taken) && guiltyBehindBrick(place) < fewest) {
-                    fewest = guiltyBehindBrick(place);
+                int many = Integer.bitCount(guiltyIf(court.stance, hall.walls | bit(place)));
+                if (many < fewest && isOpen(place, taken)) {
+                    fewest = many;
                     best = place;
                 }
             }
             return best;
-        }
-
-        int guiltyBehindBrick(int place) {
-            return Integer.bitCount(guiltyAmong(court.stance, hall.walls | bit(place), court.people()));
         }
 
         /** STOOD: what = 0 how many stances, 1 the PLACE in all of them, 2 the SIDE. */
@@ -756,7 +750,7 @@ public final class LeftProfile {
                 int next = after(stance, seed / 65536 % ACTS);
                 if (next != NONE) {
                     stance = next;
-                    guilty += Integer.bitCount(guiltyIf(stance));
+                    guilty += Integer.bitCount(guiltyIf(stance, hall.walls));
                 }
             }
             switch (what) {
@@ -785,7 +779,10 @@ public final class LeftProfile {
         private final int[] firsts = new int[STANCES];
         private int queued = 0;
 
-        /** The stance in which he comes to stand on the PLACE first; NONE: there is no WAY. */
+        /**
+         * The stance in which he comes to stand on the PLACE first; NONE: there is no WAY. ACTS in their order keep the
+         * queue in the order of first ACTS, so of like WAYS the one that begins with the least is found.
+         */
         int find(Scene scene, int start, int place) {
             Arrays.fill(lengths, UNREACHED);
             queued = 0;
@@ -795,7 +792,16 @@ public final class LeftProfile {
                 if (placeOf(stance) == place) {
                     return stance;
                 }
-                goOn(scene, stance);
+                for (int act = 0; act < ACTS; act++) {
+                    int next = scene.after(stance, act);
+                    if (isStance(next) && lengths[next] == UNREACHED) {
+                        if (scene.guiltyIf(next, scene.hall.walls) != 0) {
+                            lengths[next] = BARRED;
+                        } else {
+                            reach(next, lengthTo(stance) + 1, head == 0 ? act : firstTo(stance));
+                        }
+                    }
+                }
             }
             return NONE;
         }
@@ -806,20 +812,6 @@ public final class LeftProfile {
 
         int firstTo(int stance) {
             return isStance(stance) ? firsts[stance] : NONE;
-        }
-
-        /** ACTS in their order keep the queue in the order of first ACTS, so the least one comes first. */
-        private void goOn(Scene scene, int stance) {
-            for (int act = 0; act < ACTS; act++) {
-                int next = scene.after(stance, act);
-                if (isStance(next) && lengths[next] == UNREACHED) {
-                    if (scene.guiltyIf(next) != 0) {
-                        lengths[next] = BARRED;
-                    } else {
-                        reach(next, lengthTo(stance) + 1, firstTo(stance) == NONE ? act : firstTo(stance));
-                    }
-                }
-            }
         }
 
         private void reach(int stance, int length, int first) {

@@ -97,6 +97,9 @@ public final class PromisesTest {
         x.letter('.');
         Due.is("4 fault() of 24", x.fault(), 23);
         x.blank();
+        Due.write(x, OPEN + "/");
+        Due.is("4 no hall has a fifth row", x.fault(), 23);
+        x.blank();
         x.letter('-');
         Due.is("4 fault() of a letter of none", x.fault(), 0);
     }
@@ -110,9 +113,10 @@ public final class PromisesTest {
         Due.is("5 the page is empty", x.count(7), 0);
         Due.is("5 hall() of an empty page", x.hall(), STATE);
         x.duke(0, 1);
-        x.courtier(3, 2);
+        x.courtier(3, 10);
         x.told(0, 4);
         x.act(1);
+        Due.is("5 somebody saw both", x.about(0, 4) * 10 + x.about(0, 5), 11);
         Due.write(x, OPEN + ".");
         refused("5 hall() of 24", x, x.digest(), x.hall(), STATE);
         x.blank();
@@ -129,6 +133,7 @@ public final class PromisesTest {
         Due.is("5 on(1) in another", x.on(1), NONE);
         Due.is("5 courtier() in another", x.courtier(0, 2), 0);
         Due.is("5 nothing is told in another", x.told(0, 1), NONE);
+        Due.is("5 nothing was seen in another", x.about(0, 4) * 10 + x.about(0, 5), 0);
         Due.is("5 hall() of walls", Due.in(WALLS).count(0), 0);
     }
 
@@ -408,6 +413,9 @@ public final class PromisesTest {
         for (int wrong : new int[] {-1, 3, LOW, HIGH}) {
             Due.is("14 room(1, " + wrong + ")", x.room(1, wrong), OUTSIDE);
         }
+        x.duke(19, 1);
+        Due.is("14 from the first place on", x.room(2, 0) * 100 + x.room(2, 1), 1);
+        x.duke(0, 3);
         roomThatBarsTheSight();
         roomWhereSixStand();
         Due.is("14 nobody came", x.count(1), 0);
@@ -476,6 +484,13 @@ public final class PromisesTest {
         x.courtier(0, 1);
         Due.is("15 no empty floor", x.brick(0), NONE);
         Due.is("15 no empty floor", x.brick(1), NONE);
+        x = Due.in(OPEN);
+        x.duke(10, 1);
+        for (int place : new int[] {11, 12, 13, 14, 15, 16}) {
+            x.courtier(3, place);
+        }
+        Due.is("15 nothing helps: the place", x.brick(0), 0);
+        Due.is("15 nothing helps: how many", x.brick(1), 6);
     }
 
     private static void way() {
@@ -491,6 +506,8 @@ public final class PromisesTest {
         Due.is("16 behind: two turns", x.way(17, 0), 3);
         Due.is("16 behind: the least act", x.way(17, 1), 0);
         Due.is("16 to the right", x.way(13, 1), 1);
+        Due.is("16 to the first place and look", x.way(0, 0), 5);
+        Due.is("16 to the last place", x.way(19, 0), 5);
         Due.is("16 left and ahead", x.way(6, 0), 3);
         Due.is("16 left and ahead: the step first saves a turn", x.way(6, 1), 2);
         for (int wrong : new int[] {-1, 20, LOW, HIGH}) {
@@ -669,6 +686,12 @@ public final class PromisesTest {
             Due.is("21 who came since is gone", x.on(19), NONE);
             Due.is("21 who came since is unknown", x.about(2, 0), UNKNOWN);
         }
+        x.courtier(4, 13);
+        x.act(1);
+        x.act(1);
+        x.act(1);
+        Due.is("21 who is gone saw", x.about(2, 4) * 10 + x.about(2, 5), 22);
+        x.restore();
         Due.is("21 another comes", x.courtier(3, 19), 2);
         Due.is("21 nothing was told of him", x.told(2, 0), NONE);
         Due.is("21 he saw nothing", x.about(2, 4) + x.about(2, 5), 0);
@@ -728,7 +751,22 @@ public final class PromisesTest {
         x.letter('#');
         Due.is("23 of people", x.digest(), mix(9, 0, -2, -2, -2, -2, -2, -2, -2, -2, -2, -2, -2, -2, -2, -2, -2, -2,
                 -2, -2, 3, 1, 3, 1, 1, 1, 3, -1, -1, -1, -1, 0, -1, 1, 0, 1, 35, 2, 1, 0, 1, 1, 1, 1, 1, 1));
+        digestOfMuch();
         long once = x.digest();
         Due.is("23 once more", x.digest(), once);
+    }
+
+    /** The duke's own numbers are the ones that his calls tell, each in its place. */
+    private static void digestOfMuch() {
+        LeftProfile x = Due.in("..#../...../...../.....");
+        x.duke(11, 0);
+        x.courtier(0, 9);
+        // He can't come up to row 1 without showing it the RIGHT; to 19 he comes along row 2 and down.
+        int[] due = {-1, -1, -2, -1, -1, -1, -1, -1, -1, 0, -1, 9, -1, -1, -1, -1, -1, -1, -1, -1,
+            0, 9, 0, 0, 0, 0, -1,
+            0, 4, 0, 0, -1, 6,
+            72, -1, -1,
+            19, 1, 11, 0, 0, 0, 0, 0, 1};
+        Due.is("23 of much", x.digest(), mix(due));
     }
 }
