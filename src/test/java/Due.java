@@ -37,6 +37,25 @@ final class Due {
         }
     }
 
+    /** A HALL that is FLOOR but for one PLACE. */
+    static String wallOn(int place) {
+        return floors(1 << place ^ (1 << 20) - 1);
+    }
+
+    /** A HALL that is WALL but for one PLACE (none: WALL alone). */
+    static String floorOn(int place) {
+        return floors(place < 0 ? 0 : 1 << place);
+    }
+
+    /** A HALL with FLOOR on the PLACES of a set of bits. */
+    static String floors(int set) {
+        StringBuilder text = new StringBuilder();
+        for (int place = 0; place < 20; place++) {
+            text.append(place > 0 && place % 5 == 0 ? "/" : "").append((set >> place & 1) != 0 ? '.' : '#');
+        }
+        return text.toString();
+    }
+
     static LeftProfile in(String hall) {
         LeftProfile x = new LeftProfile();
         write(x, hall);
