@@ -2,8 +2,6 @@ import java.lang.reflect.Constructor;
 import java.lang.reflect.Field;
 import java.lang.reflect.Method;
 import java.lang.reflect.Modifier;
-import java.nio.file.Files;
-import java.nio.file.Path;
 import java.util.ArrayList;
 import java.util.Arrays;
 import java.util.Collections;
@@ -11,7 +9,7 @@ import java.util.HashSet;
 import java.util.List;
 import java.util.Set;
 
-/** The face is the document's and no more, no call throws whatever it is given, and the rules a text can show hold. */
+/** The face is the document's and no more, and no call throws whatever it is given. */
 public final class FaceTest {
     private static final String[] METHODS = {
         "int letter(int)", "int blank()", "int fault()", "int hall()", "int on(int)", "int duke(int,int)",
@@ -26,7 +24,6 @@ public final class FaceTest {
         constants();
         members();
         nothingThrows();
-        words(Files.readString(Path.of(args[0])));
         Due.end();
     }
 
@@ -114,15 +111,5 @@ public final class FaceTest {
             return;
         }
         Due.holds("", true);
-    }
-
-    private static void words(String text) {
-        String code = text.replaceAll("(?s)/\\*.*?\\*/", "").replaceAll("//[^\n]*", "");
-        for (String word : new String[] {"->", "::", "try", "catch", "finally", "throw", "synchronized", "assert",
-            "package", "System.out", "Exact(", "Random", "Thread", "static {"}) {
-            Due.holds("the class has '" + word + "'", !code.contains(word));
-        }
-        Due.holds("the class imports more than Arrays", code.split("import ").length == 2 && code.contains("import java.util.Arrays;"));
-        Due.holds("there is a tab or a sign above 126", text.chars().allMatch(c -> c == '\n' || c >= 32 && c <= 126));
     }
 }
