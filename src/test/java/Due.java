@@ -2,16 +2,32 @@
 final class Due {
     private static int passed = 0;
     private static int failed = 0;
+    /** How many answers were looked at under each promise's number, with which their text begins. */
+    private static final int[] OF_PROMISE = new int[24];
 
     private Due() {
     }
 
     static void is(String what, long got, long want) {
+        countPromise(what);
         if (got == want) {
             passed++;
         } else {
             failed++;
             System.out.println(what + " answered " + got + ", due is " + want);
+        }
+    }
+
+    private static void countPromise(String what) {
+        int blank = what.indexOf(' ');
+        if (blank > 0 && what.substring(0, blank).matches("\\d{1,2}")) {
+            OF_PROMISE[Integer.parseInt(what.substring(0, blank))]++;
+        }
+    }
+
+    static void everyPromiseWasTested() {
+        for (int promise = 1; promise <= 23; promise++) {
+            holds("promise " + promise + " has hardly a test", OF_PROMISE[promise] >= 4);
         }
     }
 

@@ -32,6 +32,7 @@ public final class PromisesTest {
         restore();
         count();
         digest();
+        Due.everyPromiseWasTested();
         Due.end();
     }
 
